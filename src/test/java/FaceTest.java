@@ -1,0 +1,144 @@
+import java.io.IOException;
+import java.lang.reflect.Constructor;
+import java.lang.reflect.Field;
+import java.lang.reflect.Method;
+import java.lang.reflect.Modifier;
+import java.nio.file.Files;
+import java.nio.file.Path;
+import java.util.HashSet;
+import java.util.Set;
+import java.util.TreeSet;
+import java.util.regex.Matcher;
+import java.util.regex.Pattern;
+
+/** The public face, and those rules of LANGUAGE.md that can be seen from outside or in the source. */
+public final class FaceTest {
+    private static final Check CHECK = new Check("FaceTest");
+
+    private static final String[] FACE = {
+        "int about(int) throws IllegalArgumentException",
+        "int addTrader() throws IllegalStateException",
+        "int append(int) throws IllegalArgumentException IllegalStateException",
+        "int betterWays() throws",
+        "int clearText() throws",
+        "int doRing(int) throws IndexOutOfBoundsException",
+        "int errorPosition() throws",
+        "int exchange(int int) throws IndexOutOfBoundsException IllegalStateException",
+        "int fewest(int int) throws IndexOutOfBoundsException",
+        "int goHome() throws",
+        "int group(boolean) throws",
+        "int groups(boolean) throws",
+        "int harms(int) throws IndexOutOfBoundsException",
+        "int holder(int) throws IndexOutOfBoundsException",
+        "int least() throws",
+        "int leastOf(int) throws IndexOutOfBoundsException",
+        "int leave(int) throws IndexOutOfBoundsException IllegalStateException",
+        "int load() throws IllegalStateException",
+        "int rank(int int) throws IndexOutOfBoundsException",
+        "int restore(int) throws IndexOutOfBoundsException IllegalStateException",
+        "int ring(int int) throws IndexOutOfBoundsException IllegalArgumentException",
+        "int runScript(int long) throws IllegalArgumentException",
+        "int save(int) throws IndexOutOfBoundsException",
+        "int setRank(int int int) throws IndexOutOfBoundsException IllegalArgumentException",
+        "int simulate(long int) throws IllegalArgumentException",
+        "int trade() throws",
+        "int trader(int int) throws IndexOutOfBoundsException IllegalArgumentException",
+        "int undo() throws IllegalStateException",
+        "int whyNot(int int) throws IndexOutOfBoundsException"};
+
+    /** What LANGUAGE.md leaves out and what the class has no use for. */
+    private static final String[] FORBIDDEN = {"->", "::", "\\bcatch\\b", "\\bfinally\\b", "\\btry\\b",
+        "\\bsynchronized\\b", "\\bassert\\b", "\\bRandom\\b", "\\bSystem\\.(?!arraycopy)", "Math\\.\\w+Exact",
+        "\\bdouble\\b", "\\bfloat\\b", "\\bThread\\b", "\\bvar\\b", "\\binstanceof\\b", "\\bfor \\(;;",
+        "while \\(true\\)", "\" \\+", "\\+ \"", "\\bObject\\b", "@"};
+
+    public static void main(String[] args) throws IOException {
+        methods();
+        members();
+        if (args.length == 1) {
+            source(Files.readString(Path.of(args[0])));
+        }
+        CHECK.end();
+    }
+
+    private static void methods() {
+        Set<String> face = new TreeSet<>();
+        for (Method method : TradeRings.class.getDeclaredMethods()) {
+            if (Modifier.isPublic(method.getModifiers())) {
+                face.add(head(method));
+            }
+        }
+        CHECK.same("the face", String.join("\n", face), String.join("\n", new TreeSet<>(Set.of(FACE))));
+    }
+
+    private static String head(Method method) {
+        StringBuilder head = new StringBuilder(method.getReturnType() + " " + method.getName() + "(");
+        for (Class<?> parameter : method.getParameterTypes()) {
+            head.append(head.charAt(head.length() - 1) == '(' ? "" : " ").append(parameter);
+        }
+        head.append(") throws");
+        for (Class<?> exception : method.getExceptionTypes()) {
+            head.append(' ').append(exception.getSimpleName());
+        }
+        return head.toString();
+    }
+
+    private static void members() {
+        CHECK.same("modifiers", TradeRings.class.getModifiers(), Modifier.PUBLIC | Modifier.FINAL);
+        Constructor<?>[] constructors = TradeRings.class.getDeclaredConstructors();
+        CHECK.same("constructors", constructors.length, 1);
+        CHECK.same("public", constructors[0].getModifiers(), Modifier.PUBLIC);
+        CHECK.same("arguments", constructors[0].getParameterCount(), 0);
+        Set<String> names = new HashSet<>();
+        for (Method method : TradeRings.class.getDeclaredMethods()) {
+            if (Modifier.isPublic(method.getModifiers())) {
+                names.add(method.getName());
+            }
+        }
+        inside(TradeRings.class, names);
+        Class<?>[] classes = TradeRings.class.getDeclaredClasses();
+        CHECK.same("at most 12 classes", classes.length <= 12 ? 1 : 0, 1);
+        for (Class<?> inner : classes) {
+            inside(inner, names);
+        }
+    }
+
+    private static void inside(Class<?> owner, Set<String> names) {
+        boolean isFace = owner == TradeRings.class;
+        for (Method method : owner.getDeclaredMethods()) {
+            boolean isPublic = isFace && Modifier.isPublic(method.getModifiers());
+            CHECK.same(method + " is private or of the face",
+                !isFace || isPublic || Modifier.isPrivate(method.getModifiers()) ? 1 : 0, 1);
+            CHECK.same(method + " has a name of its own", isPublic || !names.contains(method.getName()) ? 1 : 0, 1);
+            CHECK.same(method + " has at most 7 parameters", method.getParameterCount() <= 7 ? 1 : 0, 1);
+        }
+        int fields = 0;
+        for (Field field : owner.getDeclaredFields()) {
+            int modifiers = field.getModifiers();
+            fields += Modifier.isStatic(modifiers) ? 0 : 1;
+            CHECK.same(field + " is final if static",
+                !Modifier.isStatic(modifiers) || Modifier.isFinal(modifiers) ? 1 : 0, 1);
+            CHECK.same(field + " is private but for NONE",
+                !isFace || Modifier.isPrivate(modifiers) || field.getName().equals("NONE") ? 1 : 0, 1);
+        }
+        CHECK.same(owner + " has at most 20 fields", fields <= 20 ? 1 : 0, 1);
+    }
+
+    private static void source(String source) {
+        String code = source.replaceAll("/\\*(?s:.*?)\\*/", "").replaceAll("//.*", "");
+        for (String forbidden : FORBIDDEN) {
+            Matcher found = Pattern.compile(forbidden).matcher(code);
+            CHECK.same("the source has " + forbidden, found.find() ? found.group() : "", "");
+        }
+        CHECK.same("only signs of ASCII", source.chars().allMatch(c -> c == '\n' || c >= ' ' && c < 127) ? 1 : 0, 1);
+        Matcher imports = Pattern.compile("import (.*);").matcher(code);
+        while (imports.find()) {
+            CHECK.same("an import", imports.group(1), "java.util.Arrays");
+        }
+        Matcher thrown = Pattern.compile("throw ([^;]*);").matcher(code);
+        Pattern due = Pattern.compile("new (IndexOutOfBounds|IllegalArgument|IllegalState)Exception\\(\"[^\"]*\"\\)");
+        while (thrown.find()) {
+            CHECK.same("thrown: " + thrown.group(1), due.matcher(thrown.group(1)).matches() ? 1 : 0, 1);
+        }
+    }
+}
