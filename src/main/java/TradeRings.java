@@ -234,7 +234,7 @@ public final class TradeRings {
     }
 
     public int betterWays() {
-        return sharing.countBetter(market, market.present(), market.thingsOf(market.present()));
+        return sharing.countBetterWays(market);
     }
 
     public int harms(int i) throws IndexOutOfBoundsException {
@@ -272,7 +272,12 @@ public final class TradeRings {
             throw new IllegalArgumentException("a script is a number of at most 4 digits a command");
         }
         copy.become(market);
-        return commands.firstFailure(copy, trading, sharing);
+        for (int k = 0; k < n; k++) {
+            if (!commands.succeeds(k, copy, trading, sharing)) {
+                return k;
+            }
+        }
+        return NONE;
     }
 
     public int simulate(long seed, int m) throws IllegalArgumentException {
@@ -401,7 +406,8 @@ public final class TradeRings {
         }
 
         int rankBy(int i, int t) {
-            return ranks[i * MOST_TRADERS + t];
+            int place = i * MOST_TRADERS + t;
+            return place >= 0 && place < ranks.length ? ranks[place] : NONE;
         }
 
         int rankOfHeld(int i) {
@@ -409,12 +415,15 @@ public final class TradeRings {
         }
 
         void putRank(int i, int t, int r) {
-            ranks[i * MOST_TRADERS + t] = r;
+            int place = i * MOST_TRADERS + t;
+            if (place >= 0 && place < ranks.length) {
+                ranks[place] = r;
+            }
         }
 
         /** Above 0: i likes the thing less than what it holds; below 0: better; 0: alike. */
         int lossBy(int i, int t) {
-            return rankBy(i, t) - rankOfHeld(i);
+            return rankBy(i, t) - rankBy(i, holds[i]);
         }
 
         int holderOf(int t) {
@@ -789,17 +798,18 @@ public final class TradeRings {
 
     /** Ways to share things, one for each of some traders. */
     private static final class Sharing {
-        private static final int ALIKE = 0;
-        private static final int BETTER = 1;
-        private static final int NOT_LESS = 2;
-
+        // By trader: the things that it likes better than what it holds, alike, or not less.
+        private final int[] better = new int[MOST_TRADERS];
+        private final int[] alike = new int[MOST_TRADERS];
+        private final int[] notLess = new int[MOST_TRADERS];
+        private final int[] line = new int[MOST_TRADERS];
+        private int inLine;
         // By the set of things that the first traders in line have taken: the number of ways to
         // do so, or the smallest sum of ranks for all traders who come behind them.
         private final int[] table = new int[1 << MOST_TRADERS];
-        private final int[] line = new int[MOST_TRADERS];
-        private final int[] wanted = new int[MOST_TRADERS];
 
         int smallestGroup(Market m, boolean much) {
+            noteLikings(m);
             int best = NONE;
             for (int group = 1; group <= m.everybody(); group++) {
                 boolean isSmaller = best == NONE || Integer.bitCount(group) < Integer.bitCount(best);
@@ -811,6 +821,7 @@ public final class TradeRings {
         }
 
         int countGroups(Market m, boolean much) {
+            noteLikings(m);
             int groups = 0;
             for (int group = 1; group <= m.everybody(); group++) {
                 if (couldDoBetter(m, group, much)) {
@@ -822,19 +833,47 @@ public final class TradeRings {
 
         /** Each trader owns the thing with its number, so the group is its things as well. */
         private boolean couldDoBetter(Market m, int group, boolean much) {
-            return much ? countWays(m, group, group, BETTER) > 0 : countBetter(m, group, group) > 0;
+            lineUp(m, group);
+            return much ? countWays(group, better) > 0
+                : countWays(group, notLess) > countWays(group, alike);
         }
 
-        /** Nobody likes it less, but not all alike: then somebody likes it better. */
-        int countBetter(Market m, int traders, int things) {
-            return countWays(m, traders, things, NOT_LESS) - countWays(m, traders, things, ALIKE);
+        /** If nobody likes it less, but not all alike, then somebody likes it better. */
+        int countBetterWays(Market m) {
+            noteLikings(m);
+            lineUp(m, m.present());
+            int things = m.thingsOf(m.present());
+            return countWays(things, notLess) - countWays(things, alike);
         }
 
-        private int countWays(Market m, int traders, int things, int liking) {
-            int inLine = lineUp(m, traders);
-            for (int k = 0; k < inLine; k++) {
-                wanted[k] = wantedBy(m, line[k], things, liking);
+        private void noteLikings(Market m) {
+            for (int i = 0; i < m.count; i++) {
+                better[i] = 0;
+                alike[i] = 0;
+                for (int t = 0; t < m.count; t++) {
+                    int loss = m.lossBy(i, t);
+                    if (loss < 0) {
+                        better[i] |= bit(t);
+                    } else if (loss == 0) {
+                        alike[i] |= bit(t);
+                    }
+                }
+                notLess[i] = better[i] | alike[i];
             }
+        }
+
+        private void lineUp(Market m, int traders) {
+            inLine = 0;
+            for (int i = 0; i < m.count; i++) {
+                if (contains(traders, i)) {
+                    line[inLine] = i;
+                    inLine++;
+                }
+            }
+        }
+
+        /** In how many ways those in line could each get one of these things that it likes so. */
+        private int countWays(int things, int[] liked) {
             for (int taken = 1; taken <= things; taken++) {
                 table[taken] = 0;
             }
@@ -842,7 +881,7 @@ public final class TradeRings {
             for (int taken = 0; taken < things; taken++) {
                 int next = Integer.bitCount(taken);
                 if (table[taken] != 0 && next < inLine) {
-                    spread(taken, wanted[next] & ~taken);
+                    spread(taken, liked[line[next]] & things & ~taken);
                 }
             }
             return table[things];
@@ -856,37 +895,9 @@ public final class TradeRings {
             }
         }
 
-        private int lineUp(Market m, int traders) {
-            int inLine = 0;
-            for (int i = 0; i < m.count; i++) {
-                if (contains(traders, i)) {
-                    line[inLine] = i;
-                    inLine++;
-                }
-            }
-            return inLine;
-        }
-
-        private static int wantedBy(Market m, int i, int things, int liking) {
-            int wanted = 0;
-            for (int t = 0; t < m.count; t++) {
-                if (contains(things, t) && suits(m.lossBy(i, t), liking)) {
-                    wanted |= bit(t);
-                }
-            }
-            return wanted;
-        }
-
-        private static boolean suits(int loss, int liking) {
-            if (liking == ALIKE) {
-                return loss == 0;
-            }
-            return liking == BETTER ? loss < 0 : loss <= 0;
-        }
-
         int leastSum(Market m) {
             int things = m.thingsOf(m.present());
-            int inLine = lineUp(m, m.present());
+            lineUp(m, m.present());
             table[things] = 0;
             for (int taken = things - 1; taken >= 0; taken--) {
                 int next = Integer.bitCount(taken);
@@ -901,7 +912,7 @@ public final class TradeRings {
         int thingAtLeast(Market m, int i) {
             leastSum(m);
             int things = m.thingsOf(m.present());
-            int inLine = lineUp(m, m.present());
+            lineUp(m, m.present());
             int taken = 0;
             for (int k = 0; k < inLine; k++) {
                 int t = bestThing(m, line[k], taken, things);
@@ -1039,16 +1050,9 @@ public final class TradeRings {
             return rest == 0;
         }
 
-        int firstFailure(Market m, Trading trading, Sharing sharing) {
-            for (int k = 0; k < length; k++) {
-                if (!succeeds(commands[k], m, trading, sharing)) {
-                    return k;
-                }
-            }
-            return NONE;
-        }
-
-        private static boolean succeeds(int command, Market m, Trading trading, Sharing sharing) {
+        /** Does the command with the index k; a command that fails changes nothing. */
+        boolean succeeds(int k, Market m, Trading trading, Sharing sharing) {
+            int command = k >= 0 && k < length ? commands[k] : 0;
             int second = command / 100 % 10;
             int third = command / 10 % 10;
             int last = command % 10;
