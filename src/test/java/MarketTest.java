@@ -146,6 +146,8 @@ public final class MarketTest {
         CHECK.noIndex("whyNot(0, 4)", () -> x.whyNot(0, 4));
         CHECK.noIndex("whyNot(-1, -1)", () -> x.whyNot(-1, -1));
         TradeRings alike = Markets.of("M3" + "555" + "515" + "551");
+        CHECK.same("less by one", Markets.of("M25650").whyNot(0, 1), 4);
+        CHECK.same("less by one", Markets.of("M25065").whyNot(0, 1), 5);
         CHECK.same("neither likes it better", Markets.of("M25555").whyNot(0, 1), 6);
         CHECK.same("j likes it less", alike.whyNot(0, 1), 5);
         CHECK.same("one better, one alike", Markets.of("M25155").whyNot(0, 1), 0);

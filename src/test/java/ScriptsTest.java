@@ -120,6 +120,10 @@ public final class ScriptsTest {
         CHECK.same("a ring of one, then the ranks", x.runScript(3, 2100_8010_8009L), 2);
         CHECK.same("the trading, then its things", x.runScript(4, 3000_7000_7120_7330L), NONE);
         CHECK.same("the rings of what is held then", x.runScript(2, 2000_2300L), NONE);
+        CHECK.same("a rank, then the trading", Markets.of(ROUNDS).runScript(4, 5110_3000_7110_7220L), NONE);
+        CHECK.same("a rank, then a ring of one", Markets.of(ROUNDS).runScript(3, 5110_2000_7110L), NONE);
+        CHECK.same("a ring, then what it gave", Markets.of(ROUNDS).runScript(3, 2000_7120_7210L), NONE);
+        CHECK.same("one trader does not exist", x.runScript(2, 1140_3000L), 0);
         CHECK.same("a rank, then an exchange", x.runScript(3, 5019_5000_1010L), 2);
         CHECK.same("a rank, then the ranks", x.runScript(2, 5009_8016L), 1);
         CHECK.same("a rank, then the ranks", x.runScript(2, 5009_8017L), NONE);

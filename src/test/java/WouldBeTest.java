@@ -35,6 +35,11 @@ public final class WouldBeTest {
         groupsOf("M25195", NONE, 0, NONE, 0);
         groupsOf("M15", NONE, 0, NONE, 0);
         groupsOf("M15/0!", NONE, 0, NONE, 0);
+        TradeRings x = Markets.of("M25115");
+        CHECK.same("before", x.groups(false), 1);
+        x.setRank(0, 1, 9);
+        x.setRank(1, 0, 9);
+        CHECK.same("other ranks, other groups", x.groups(false), 0);
         // Only the three together: 0 wants 1, 1 wants 2, 2 wants 0.
         groupsOf("M3" + "509" + "950" + "095", 7, 1, 7, 1);
         // The same, but 2 likes all alike: with it, and it and 0 have nothing to share.
@@ -95,6 +100,7 @@ public final class WouldBeTest {
         leasts("M3" + "119" + "111" + "911", 3, 0, 1, 2);
         // 0 may have 1 or 2, the rest follows.
         leasts("M3" + "911" + "199" + "911", 3, 1, 0, 2);
+        CHECK.same("leastOf without least", Markets.of("M3" + "012" + "090" + "099").leastOf(0), 1);
         TradeRings x = Markets.of("M25555");
         CHECK.noIndex("leastOf(2)", () -> x.leastOf(2));
         CHECK.noIndex("leastOf(-1)", () -> x.leastOf(-1));
@@ -172,5 +178,20 @@ public final class WouldBeTest {
             + "9999559" + "9999955");
         CHECK.same("step by step to the last thing", steps.fewest(0, 6), 6);
         CHECK.same("nor can 6 come further", steps.fewest(6, 4), NONE);
+        CHECK.same("once more behind another search", steps.fewest(0, 3), 3);
+        manyWays();
+    }
+
+    private static void manyWays() {
+        // Tens of thousands of ways lead on, but to far fewer sharings.
+        TradeRings many = Markets.of("M7" + "9400041" + "5550146" + "1266263" + "1145506" + "7725826"
+            + "7685351" + "5756601");
+        CHECK.same("many ways", many.fewest(0, 6), 7);
+        // The last sharings of all: 4, 5 and 6 hold 2, 1 and 0; 4 comes to 0 by 1.
+        TradeRings last = Markets.of("M7" + "9999999".repeat(4) + "3459999" + "9559999" + "5599999" + "/6543210");
+        CHECK.same("the thing between", last.fewest(4, 1), 1);
+        CHECK.same("by the thing between", last.fewest(4, 0), 2);
+        CHECK.same("and the other one", last.fewest(6, 1), 2);
+        CHECK.same("not further", last.fewest(6, 2), NONE);
     }
 }
