@@ -909,10 +909,10 @@ public final class TradeRings {
             return table[0];
         }
 
+        /** Goes down the line that leastSum made, by its table. */
         int thingAtLeast(Market m, int i) {
             leastSum(m);
             int things = m.thingsOf(m.present());
-            lineUp(m, m.present());
             int taken = 0;
             for (int k = 0; k < inLine; k++) {
                 int t = bestThing(m, line[k], taken, things);
