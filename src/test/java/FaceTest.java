@@ -46,16 +46,19 @@ public final class FaceTest {
         "int undo() throws IllegalStateException",
         "int whyNot(int int) throws IndexOutOfBoundsException"};
 
-    /** What LANGUAGE.md leaves out and what the class has no use for. */
-    private static final String[] FORBIDDEN = {"->", "::", "\\bcatch\\b", "\\bfinally\\b", "\\btry\\b",
-        "\\bsynchronized\\b", "\\bassert\\b", "\\bRandom\\b", "\\bSystem\\.(?!arraycopy)", "Math\\.\\w+Exact",
-        "\\bdouble\\b", "\\bfloat\\b", "\\bThread\\b", "\\bvar\\b", "\\binstanceof\\b", "\\bfor \\(;;",
-        "while \\(true\\)", "\" \\+", "\\+ \"", "\\bObject\\b", "@"};
+    /** What LANGUAGE.md leaves out, as far as it can be seen without reading the whole of it. */
+    private static final String[] FORBIDDEN = {"->", "::", "\\bfinally\\b", "\\btry \\(", "\\bsynchronized\\b",
+        "\\bassert\\b", "\\bRandom\\b", "\\bSystem\\.(?!arraycopy)", "\\w+Exact\\(", "\\bThread\\b",
+        "\\bfor \\(;;", "while \\(true\\)", "\" \\+", "\\+ \"", "\\bObject\\b"};
+
+    /** The exceptions of its rule 6. */
+    private static final String EXCEPTIONS = "(IllegalState|IllegalArgument|IndexOutOfBounds|Arithmetic"
+        + "|UnsupportedOperation|NoSuchElement|Runtime)Exception";
 
     public static void main(String[] args) throws IOException {
         methods();
         members();
-        if (args.length == 1) {
+        if (args.length > 0) {
             source(Files.readString(Path.of(args[0])));
         }
         CHECK.end();
@@ -106,10 +109,13 @@ public final class FaceTest {
     private static void inside(Class<?> owner, Set<String> names) {
         boolean isFace = owner == TradeRings.class;
         for (Method method : owner.getDeclaredMethods()) {
-            boolean isPublic = isFace && Modifier.isPublic(method.getModifiers());
+            if (method.isSynthetic()) {
+                continue;
+            }
+            boolean isPrivate = Modifier.isPrivate(method.getModifiers());
             CHECK.same(method + " is private or of the face",
-                !isFace || isPublic || Modifier.isPrivate(method.getModifiers()) ? 1 : 0, 1);
-            CHECK.same(method + " has a name of its own", isPublic || !names.contains(method.getName()) ? 1 : 0, 1);
+                !isFace || isPrivate || Modifier.isPublic(method.getModifiers()) ? 1 : 0, 1);
+            CHECK.same(method + " has a name of its own", !isPrivate || !names.contains(method.getName()) ? 1 : 0, 1);
             CHECK.same(method + " has at most 7 parameters", method.getParameterCount() <= 7 ? 1 : 0, 1);
         }
         int fields = 0;
@@ -126,19 +132,22 @@ public final class FaceTest {
 
     private static void source(String source) {
         String code = source.replaceAll("/\\*(?s:.*?)\\*/", "").replaceAll("//.*", "");
+        String withoutCases = code.replaceAll("\\b(case [^;{}]*?|default )->", "");
         for (String forbidden : FORBIDDEN) {
-            Matcher found = Pattern.compile(forbidden).matcher(code);
+            Matcher found = Pattern.compile(forbidden).matcher(withoutCases);
             CHECK.same("the source has " + forbidden, found.find() ? found.group() : "", "");
         }
         CHECK.same("only signs of ASCII", source.chars().allMatch(c -> c == '\n' || c >= ' ' && c < 127) ? 1 : 0, 1);
-        Matcher imports = Pattern.compile("import (.*);").matcher(code);
-        while (imports.find()) {
-            CHECK.same("an import", imports.group(1), "java.util.Arrays");
-        }
-        Matcher thrown = Pattern.compile("throw ([^;]*);").matcher(code);
-        Pattern due = Pattern.compile("new (IndexOutOfBounds|IllegalArgument|IllegalState)Exception\\(\"[^\"]*\"\\)");
-        while (thrown.find()) {
-            CHECK.same("thrown: " + thrown.group(1), due.matcher(thrown.group(1)).matches() ? 1 : 0, 1);
+        each(code, "import (.*);", "java\\.util\\.(Arrays|ArrayList|List|Iterator|NoSuchElementException)");
+        each(code, "throw ([^;]*);", "new " + EXCEPTIONS + "\\((\"[^\"]*\")?\\)");
+        each(code, "catch \\(([^)]*) \\w+\\)", EXCEPTIONS + "( \\| " + EXCEPTIONS + ")*");
+    }
+
+    /** Each part of the code of this form must be of the form that is due. */
+    private static void each(String code, String form, String due) {
+        Matcher found = Pattern.compile(form).matcher(code);
+        while (found.find()) {
+            CHECK.same(found.group() + " is as LANGUAGE.md allows", found.group(1).matches(due) ? 1 : 0, 1);
         }
     }
 }
