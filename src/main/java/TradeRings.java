@@ -13,8 +13,8 @@ public final class TradeRings {
     private final Text text = new Text();
     private final Market market = new Market();
     private final History history = new History();
-    private final Market[] slots = new Market[2];
-    private final boolean[] isSaved = new boolean[2];
+    private final Slot slotZero = new Slot();
+    private final Slot slotOne = new Slot();
 
     // Work space that every call fills anew: nothing is remembered in it from call to call.
     private final Market copy = new Market();
@@ -25,9 +25,6 @@ public final class TradeRings {
     private final Script commands = new Script();
 
     public TradeRings() {
-        for (int slot = 0; slot < slots.length; slot++) {
-            slots[slot] = new Market();
-        }
     }
 
     // ---- text
@@ -59,9 +56,8 @@ public final class TradeRings {
         }
         market.become(copy);
         history.forgetAll();
-        for (int slot = 0; slot < isSaved.length; slot++) {
-            isSaved[slot] = false;
-        }
+        slotZero.isFull = false;
+        slotOne.isFull = false;
         return market.presentCount();
     }
 
@@ -94,19 +90,19 @@ public final class TradeRings {
         needTrader(i);
         switch (what) {
             case 0:
-                return market.holds[i];
+                return at(market.holds, i);
             case 1:
                 return market.rankOfHeld(i);
             case 2:
                 return market.isPresent(i) ? 1 : 0;
             case 3:
-                return presentTrading().gets[i];
+                return at(presentTrading().gets, i);
             case 4:
-                return presentTrading().roundOf[i];
+                return at(presentTrading().roundOf, i);
             case 5:
-                return presentTrading().ringOf[i];
+                return at(presentTrading().ringOf, i);
             case 6:
-                return presentTrading().firstChoice[i];
+                return at(presentTrading().firstChoice, i);
             default:
                 throw new IllegalArgumentException("what is from 0 to 6");
         }
@@ -128,11 +124,11 @@ public final class TradeRings {
         needRing(found, k);
         switch (what) {
             case 0:
-                return found.tradersOf[k];
+                return at(found.tradersOf, k);
             case 1:
-                return Integer.bitCount(found.tradersOf[k]);
+                return Integer.bitCount(at(found.tradersOf, k));
             case 2:
-                return found.roundOfRing[k];
+                return at(found.roundOfRing, k);
             case 3:
                 return found.gainOf(market, k);
             default:
@@ -176,14 +172,14 @@ public final class TradeRings {
         }
         history.remember(market);
         market.swap(i, j);
-        return market.holds[i];
+        return at(market.holds, i);
     }
 
     public int doRing(int k) throws IndexOutOfBoundsException {
         Trading found = presentTrading();
         needRing(found, k);
         history.remember(market);
-        return market.take(found, found.tradersOf[k]);
+        return market.take(found, at(found.tradersOf, k));
     }
 
     public int trade() {
@@ -207,11 +203,11 @@ public final class TradeRings {
     }
 
     public int undo() throws IllegalStateException {
-        if (history.size == 0) {
+        if (history.remembered() == 0) {
             throw new IllegalStateException("no state is remembered");
         }
         history.takeBack(market);
-        return history.size;
+        return history.remembered();
     }
 
     // ---- what would be
@@ -248,7 +244,7 @@ public final class TradeRings {
         int harmed = 0;
         for (int j = 0; j < market.count; j++) {
             if (contains(others, j)
-                    && market.rankBy(j, tradingWithout.gets[j]) > market.rankBy(j, with.gets[j])) {
+                    && market.lossBy(j, at(tradingWithout.gets, j)) > market.lossBy(j, at(with.gets, j))) {
                 harmed |= bit(j);
             }
         }
@@ -299,18 +295,18 @@ public final class TradeRings {
     // ---- save slots
 
     public int save(int slot) throws IndexOutOfBoundsException {
-        needSlot(slot);
-        slots[slot].become(market);
-        isSaved[slot] = true;
+        Slot into = neededSlot(slot);
+        into.saved.become(market);
+        into.isFull = true;
         return market.count;
     }
 
     public int restore(int slot) throws IndexOutOfBoundsException, IllegalStateException {
-        needSlot(slot);
-        if (!isSaved[slot]) {
+        Slot from = neededSlot(slot);
+        if (!from.isFull) {
             throw new IllegalStateException("nothing has been saved in the slot");
         }
-        market.become(slots[slot]);
+        market.become(from.saved);
         history.forgetAll();
         return market.count;
     }
@@ -334,10 +330,11 @@ public final class TradeRings {
         }
     }
 
-    private void needSlot(int slot) {
-        if (slot < 0 || slot >= slots.length) {
+    private Slot neededSlot(int slot) {
+        if (slot != 0 && slot != 1) {
             throw new IndexOutOfBoundsException("there is no such save slot");
         }
+        return slot == 0 ? slotZero : slotOne;
     }
 
     private static void needRing(Trading found, int k) {
@@ -348,7 +345,7 @@ public final class TradeRings {
 
     /** One meeting of a simulation; returns whether there is an exchange. */
     private static boolean meet(Market m, int r) {
-        if (m.count == 0) {
+        if (m.count <= 0) {
             return false;
         }
         int first = r / 16 % m.count;
@@ -371,6 +368,22 @@ public final class TradeRings {
         return (bits >> number & 1) != 0;
     }
 
+    /** The number at the place k of the row; NONE if there is no such place. */
+    private static int at(int[] row, int k) {
+        return k >= 0 && k < row.length ? row[k] : NONE;
+    }
+
+    /** Puts the number at the place k of the row; a place that there is not stays untouched. */
+    private static void put(int[] row, int k, int number) {
+        if (k >= 0 && k < row.length) {
+            row[k] = number;
+        }
+    }
+
+    private static void copyRow(int[] from, int[] to) {
+        System.arraycopy(from, 0, to, 0, Math.min(from.length, to.length));
+    }
+
     /** The state. A thing has the number of its owner, so one bound serves for traders and things. */
     private static final class Market {
         int count;
@@ -381,8 +394,8 @@ public final class TradeRings {
         void become(Market other) {
             count = other.count;
             left = other.left;
-            System.arraycopy(other.ranks, 0, ranks, 0, ranks.length);
-            System.arraycopy(other.holds, 0, holds, 0, holds.length);
+            copyRow(other.ranks, ranks);
+            copyRow(other.holds, holds);
         }
 
         boolean has(int number) {
@@ -411,24 +424,21 @@ public final class TradeRings {
         }
 
         int rankOfHeld(int i) {
-            return rankBy(i, holds[i]);
+            return rankBy(i, at(holds, i));
         }
 
         void putRank(int i, int t, int r) {
-            int place = i * MOST_TRADERS + t;
-            if (place >= 0 && place < ranks.length) {
-                ranks[place] = r;
-            }
+            put(ranks, i * MOST_TRADERS + t, r);
         }
 
         /** Above 0: i likes the thing less than what it holds; below 0: better; 0: alike. */
         int lossBy(int i, int t) {
-            return rankBy(i, t) - rankBy(i, holds[i]);
+            return rankBy(i, t) - rankOfHeld(i);
         }
 
         int holderOf(int t) {
             for (int i = 0; i < count; i++) {
-                if (holds[i] == t) {
+                if (at(holds, i) == t) {
                     return i;
                 }
             }
@@ -439,7 +449,7 @@ public final class TradeRings {
             int things = 0;
             for (int i = 0; i < count; i++) {
                 if (contains(traders, i)) {
-                    things |= bit(holds[i]);
+                    things |= bit(at(holds, i));
                 }
             }
             return things;
@@ -448,7 +458,7 @@ public final class TradeRings {
         int ownersWithTheirThing() {
             int owners = 0;
             for (int i = 0; i < count; i++) {
-                if (holds[i] == i) {
+                if (at(holds, i) == i) {
                     owners++;
                 }
             }
@@ -467,7 +477,7 @@ public final class TradeRings {
             int pairs = 0;
             for (int i = 0; i < count; i++) {
                 for (int j = 0; j < count; j++) {
-                    if (isPresent(i) && isPresent(j) && lossBy(i, holds[j]) < 0) {
+                    if (isPresent(i) && isPresent(j) && lossBy(i, at(holds, j)) < 0) {
                         pairs++;
                     }
                 }
@@ -485,11 +495,11 @@ public final class TradeRings {
             if (!isPresent(j)) {
                 return 3;
             }
-            int lossOfFirst = lossBy(i, holds[j]);
+            int lossOfFirst = lossBy(i, at(holds, j));
             if (lossOfFirst > 0) {
                 return 4;
             }
-            int lossOfSecond = lossBy(j, holds[i]);
+            int lossOfSecond = lossBy(j, at(holds, i));
             if (lossOfSecond > 0) {
                 return 5;
             }
@@ -497,17 +507,18 @@ public final class TradeRings {
         }
 
         void swap(int i, int j) {
-            int thing = holds[i];
-            holds[i] = holds[j];
-            holds[j] = thing;
+            int thing = at(holds, i);
+            put(holds, i, at(holds, j));
+            put(holds, j, thing);
         }
 
         /** Each of these traders holds what it gets; returns how many hold another thing then. */
         int take(Trading found, int traders) {
             int changed = 0;
             for (int i = 0; i < count; i++) {
-                if (contains(traders, i) && holds[i] != found.gets[i]) {
-                    holds[i] = found.gets[i];
+                int thing = at(found.gets, i);
+                if (contains(traders, i) && at(holds, i) != thing) {
+                    put(holds, i, thing);
                     changed++;
                 }
             }
@@ -522,8 +533,8 @@ public final class TradeRings {
             left = 0;
             int changed = 0;
             for (int i = 0; i < count; i++) {
-                if (holds[i] != i) {
-                    holds[i] = i;
+                if (at(holds, i) != i) {
+                    put(holds, i, i);
                     changed++;
                 }
             }
@@ -540,7 +551,7 @@ public final class TradeRings {
         int addOne() {
             int added = count;
             count++;
-            holds[added] = added;
+            put(holds, added, added);
             for (int other = 0; other < added; other++) {
                 putRank(added, other, 5);
                 putRank(other, added, 5);
@@ -550,18 +561,28 @@ public final class TradeRings {
         }
     }
 
+    /** A save slot: what it holds counts only if it is full. */
+    private static final class Slot {
+        final Market saved = new Market();
+        boolean isFull;
+    }
+
     /** The states before the last actions, in rows that are used in turn. */
     private static final class History {
         private static final int MOST_STATES = 14;
 
-        final Market[] states = new Market[MOST_STATES];
-        int size;
+        private final Market[] states = new Market[MOST_STATES];
+        private int size;
         private int next;
 
         History() {
-            for (int k = 0; k < MOST_STATES; k++) {
+            for (int k = 0; k < states.length; k++) {
                 states[k] = new Market();
             }
+        }
+
+        int remembered() {
+            return size;
         }
 
         void forgetAll() {
@@ -569,16 +590,20 @@ public final class TradeRings {
         }
 
         void remember(Market m) {
-            states[next].become(m);
-            next = (next + 1) % MOST_STATES;
-            size = Math.min(size + 1, MOST_STATES);
+            if (next >= 0 && next < states.length && states[next] != null) {
+                states[next].become(m);
+                next = (next + 1) % MOST_STATES;
+                size = Math.min(size + 1, MOST_STATES);
+            }
         }
 
-        /** The caller has seen to it that a state is remembered. */
         void takeBack(Market m) {
-            next = (next + MOST_STATES - 1) % MOST_STATES;
-            size--;
-            m.become(states[next]);
+            int last = (next + MOST_STATES - 1) % MOST_STATES;
+            if (size > 0 && last >= 0 && last < states.length && states[last] != null) {
+                m.become(states[last]);
+                next = last;
+                size--;
+            }
         }
     }
 
@@ -596,18 +621,18 @@ public final class TradeRings {
 
         void add(int c) {
             if (!isFull()) {
-                characters[length] = c;
+                put(characters, length, c);
                 length++;
             }
         }
 
-        private int at(int position) {
-            return position >= 0 && position < length ? characters[position] : END;
+        private int characterAt(int position) {
+            return position >= 0 && position < length ? at(characters, position) : END;
         }
 
         /** The value of the digit at the position, or NONE if it is not one from lowest to highest. */
         private int digitAt(int position, int lowest, int highest) {
-            int value = at(position) - '0';
+            int value = characterAt(position) - '0';
             return value >= lowest && value <= highest ? value : NONE;
         }
 
@@ -616,7 +641,7 @@ public final class TradeRings {
          * market; with an error, the market is left half read.
          */
         int readMarket(Market into) {
-            if (at(0) != 'M') {
+            if (characterAt(0) != 'M') {
                 return 0;
             }
             int traders = digitAt(1, 1, MOST_TRADERS);
@@ -629,10 +654,10 @@ public final class TradeRings {
                 return error;
             }
             int behindRanks = 2 + traders * traders;
-            if (at(behindRanks) == END) {
+            if (characterAt(behindRanks) == END) {
                 return NONE;
             }
-            return at(behindRanks) == '/' ? readHoldings(into, behindRanks + 1) : behindRanks;
+            return characterAt(behindRanks) == '/' ? readHoldings(into, behindRanks + 1) : behindRanks;
         }
 
         private int readRanks(Market into, int start) {
@@ -659,14 +684,14 @@ public final class TradeRings {
                     return position;
                 }
                 taken |= bit(t);
-                into.holds[i] = t;
+                put(into.holds, i, t);
                 position++;
-                if (at(position) == '!') {
+                if (characterAt(position) == '!') {
                     into.sendAway(i);
                     position++;
                 }
             }
-            return at(position) == END ? NONE : position;
+            return characterAt(position) == END ? NONE : position;
         }
     }
 
@@ -700,7 +725,8 @@ public final class TradeRings {
         int movers(Market m) {
             int moving = 0;
             for (int i = 0; i < m.count; i++) {
-                if (gets[i] != NONE && gets[i] != m.holds[i]) {
+                int thing = at(gets, i);
+                if (thing != NONE && thing != at(m.holds, i)) {
                     moving++;
                 }
             }
@@ -710,8 +736,8 @@ public final class TradeRings {
         int gainOf(Market m, int k) {
             int gain = 0;
             for (int i = 0; i < m.count; i++) {
-                if (contains(tradersOf[k], i)) {
-                    gain -= m.lossBy(i, gets[i]);
+                if (contains(at(tradersOf, k), i)) {
+                    gain -= m.lossBy(i, at(gets, i));
                 }
             }
             return gain;
@@ -721,19 +747,20 @@ public final class TradeRings {
             rings = 0;
             rounds = 0;
             for (int i = 0; i < MOST_TRADERS; i++) {
-                gets[i] = NONE;
-                roundOf[i] = NONE;
-                ringOf[i] = NONE;
-                firstChoice[i] = NONE;
+                put(gets, i, NONE);
+                put(roundOf, i, NONE);
+                put(ringOf, i, NONE);
+                put(firstChoice, i, NONE);
             }
         }
 
         private void point(Market m, int open) {
             for (int i = 0; i < m.count; i++) {
                 if (contains(open, i)) {
-                    pointsAt[i] = choice(m, i, open);
+                    int chosen = choice(m, i, open);
+                    put(pointsAt, i, chosen);
                     if (rounds == 0) {
-                        firstChoice[i] = pointsAt[i];
+                        put(firstChoice, i, chosen);
                     }
                 }
             }
@@ -743,7 +770,7 @@ public final class TradeRings {
         private static int choice(Market m, int i, int open) {
             int best = i;
             for (int j = 0; j < m.count; j++) {
-                if (contains(open, j) && m.rankBy(i, m.holds[j]) < m.rankBy(i, m.holds[best])) {
+                if (contains(open, j) && m.rankBy(i, at(m.holds, j)) < m.rankBy(i, at(m.holds, best))) {
                     best = j;
                 }
             }
@@ -768,11 +795,11 @@ public final class TradeRings {
         /** The traders of the ring in which first is; 0 if it only points into one. */
         private int ringThrough(int first) {
             int met = 0;
-            int at = first;
+            int last = first;
             for (int step = 0; step < MOST_TRADERS; step++) {
-                met |= bit(at);
-                at = pointsAt[at];
-                if (at == first) {
+                met |= bit(last);
+                last = at(pointsAt, last);
+                if (last == first) {
                     return met;
                 }
             }
@@ -780,18 +807,15 @@ public final class TradeRings {
         }
 
         private void addRing(Market m, int ring) {
-            if (rings >= MOST_TRADERS) {
-                return;
-            }
             for (int i = 0; i < m.count; i++) {
                 if (contains(ring, i)) {
-                    gets[i] = m.holds[pointsAt[i]];
-                    roundOf[i] = rounds;
-                    ringOf[i] = rings;
+                    put(gets, i, at(m.holds, at(pointsAt, i)));
+                    put(roundOf, i, rounds);
+                    put(ringOf, i, rings);
                 }
             }
-            tradersOf[rings] = ring;
-            roundOfRing[rings] = rounds;
+            put(tradersOf, rings, ring);
+            put(roundOfRing, rings, rounds);
             rings++;
         }
     }
@@ -848,17 +872,19 @@ public final class TradeRings {
 
         private void noteLikings(Market m) {
             for (int i = 0; i < m.count; i++) {
-                better[i] = 0;
-                alike[i] = 0;
+                int likedBetter = 0;
+                int likedAlike = 0;
                 for (int t = 0; t < m.count; t++) {
                     int loss = m.lossBy(i, t);
                     if (loss < 0) {
-                        better[i] |= bit(t);
+                        likedBetter |= bit(t);
                     } else if (loss == 0) {
-                        alike[i] |= bit(t);
+                        likedAlike |= bit(t);
                     }
                 }
-                notLess[i] = better[i] | alike[i];
+                put(better, i, likedBetter);
+                put(alike, i, likedAlike);
+                put(notLess, i, likedBetter | likedAlike);
             }
         }
 
@@ -866,7 +892,7 @@ public final class TradeRings {
             inLine = 0;
             for (int i = 0; i < m.count; i++) {
                 if (contains(traders, i)) {
-                    line[inLine] = i;
+                    put(line, inLine, i);
                     inLine++;
                 }
             }
@@ -875,22 +901,24 @@ public final class TradeRings {
         /** In how many ways those in line could each get one of these things that it likes so. */
         private int countWays(int things, int[] liked) {
             for (int taken = 1; taken <= things; taken++) {
-                table[taken] = 0;
+                put(table, taken, 0);
             }
-            table[0] = 1;
+            put(table, 0, 1);
             for (int taken = 0; taken < things; taken++) {
+                int ways = at(table, taken);
                 int next = Integer.bitCount(taken);
-                if (table[taken] != 0 && next < inLine) {
-                    spread(taken, liked[line[next]] & things & ~taken);
+                if (ways != 0 && next < inLine) {
+                    spread(taken, ways, at(liked, at(line, next)) & things & ~taken);
                 }
             }
-            return table[things];
+            return at(table, things);
         }
 
-        private void spread(int taken, int open) {
+        private void spread(int taken, int ways, int open) {
             for (int t = 0; t < MOST_TRADERS; t++) {
                 if (contains(open, t)) {
-                    table[taken | bit(t)] += table[taken];
+                    int then = taken | bit(t);
+                    put(table, then, at(table, then) + ways);
                 }
             }
         }
@@ -898,15 +926,15 @@ public final class TradeRings {
         int leastSum(Market m) {
             int things = m.thingsOf(m.present());
             lineUp(m, m.present());
-            table[things] = 0;
+            put(table, things, 0);
             for (int taken = things - 1; taken >= 0; taken--) {
                 int next = Integer.bitCount(taken);
                 if ((taken & ~things) == 0 && next < inLine) {
-                    int t = bestThing(m, line[next], taken, things);
-                    table[taken] = t == NONE ? 0 : sumWith(m, line[next], taken, t);
+                    int i = at(line, next);
+                    put(table, taken, sumWith(m, i, taken, bestThing(m, i, taken, things)));
                 }
             }
-            return table[0];
+            return at(table, 0);
         }
 
         /** Goes down the line that leastSum made, by its table. */
@@ -915,8 +943,8 @@ public final class TradeRings {
             int things = m.thingsOf(m.present());
             int taken = 0;
             for (int k = 0; k < inLine; k++) {
-                int t = bestThing(m, line[k], taken, things);
-                if (line[k] == i || t == NONE) {
+                int t = bestThing(m, at(line, k), taken, things);
+                if (at(line, k) == i) {
                     return t;
                 }
                 taken |= bit(t);
@@ -938,7 +966,7 @@ public final class TradeRings {
         }
 
         private int sumWith(Market m, int i, int taken, int t) {
-            return m.rankBy(i, t) + table[taken | bit(t)];
+            return m.rankBy(i, t) + at(table, taken | bit(t));
         }
     }
 
@@ -960,15 +988,16 @@ public final class TradeRings {
             if (!m.isPresent(i)) {
                 return NONE;
             }
-            if (m.holds[i] == t) {
+            if (at(m.holds, i) == t) {
                 return 0;
             }
             tail = 0;
             Arrays.fill(met, 0);
             meet(m, 0);
             for (int head = 0; head < tail && head < MOST_SHARINGS; head++) {
-                int exchanges = (queue[head] >> BITS_OF_SHARING) + 1;
-                unpack(queue[head], m);
+                int entry = at(queue, head);
+                int exchanges = (entry >> BITS_OF_SHARING) + 1;
+                unpack(entry, m);
                 if (exchangeAll(m, exchanges, i, t)) {
                     return exchanges;
                 }
@@ -982,7 +1011,7 @@ public final class TradeRings {
                 for (int b = a + 1; b < m.count; b++) {
                     if (m.reasonAgainst(a, b) == 0) {
                         m.swap(a, b);
-                        if (m.holds[i] == t) {
+                        if (at(m.holds, i) == t) {
                             return true;
                         }
                         meet(m, exchanges);
@@ -1000,7 +1029,7 @@ public final class TradeRings {
             if (word >= 0 && word < met.length && (met[word] & bitInWord) == 0
                     && tail < MOST_SHARINGS) {
                 met[word] |= bitInWord;
-                queue[tail] = exchanges << BITS_OF_SHARING | pack(m);
+                put(queue, tail, exchanges << BITS_OF_SHARING | pack(m));
                 tail++;
             }
         }
@@ -1010,7 +1039,7 @@ public final class TradeRings {
             int number = 0;
             int free = m.everybody();
             for (int i = 0; i < m.count; i++) {
-                int t = m.holds[i];
+                int t = at(m.holds, i);
                 number = number * (m.count - i) + Integer.bitCount(free & (bit(t) - 1));
                 free &= ~bit(t);
             }
@@ -1020,14 +1049,14 @@ public final class TradeRings {
         private static int pack(Market m) {
             int packed = 0;
             for (int i = 0; i < m.count; i++) {
-                packed |= m.holds[i] << i * BITS_OF_THING;
+                packed |= at(m.holds, i) << i * BITS_OF_THING;
             }
             return packed;
         }
 
         private static void unpack(int packed, Market m) {
             for (int i = 0; i < m.count; i++) {
-                m.holds[i] = packed >> i * BITS_OF_THING & 7;
+                put(m.holds, i, packed >> i * BITS_OF_THING & 7);
             }
         }
     }
@@ -1044,7 +1073,7 @@ public final class TradeRings {
             length = Math.min(n, MOST_COMMANDS);
             long rest = number;
             for (int k = length - 1; k >= 0; k--) {
-                commands[k] = (int) (rest % 10000);
+                put(commands, k, (int) (rest % 10000));
                 rest /= 10000;
             }
             return rest == 0;
@@ -1052,7 +1081,7 @@ public final class TradeRings {
 
         /** Does the command with the index k; a command that fails changes nothing. */
         boolean succeeds(int k, Market m, Trading trading, Sharing sharing) {
-            int command = k >= 0 && k < length ? commands[k] : 0;
+            int command = k >= 0 && k < length ? at(commands, k) : 0;
             int second = command / 100 % 10;
             int third = command / 10 % 10;
             int last = command % 10;
@@ -1070,7 +1099,7 @@ public final class TradeRings {
                 case 6:
                     return second == 0 && third == 0 && last == 0 && goesHome(m);
                 case 7:
-                    return last == 0 && m.has(second) && m.has(third) && m.holds[second] == third;
+                    return last == 0 && m.has(second) && m.has(third) && at(m.holds, second) == third;
                 case 8:
                     return second == 0 && m.sumOfRanks() <= third * 10 + last;
                 case 9:
@@ -1093,7 +1122,7 @@ public final class TradeRings {
             if (!trading.hasRing(k)) {
                 return false;
             }
-            m.take(trading, trading.tradersOf[k]);
+            m.take(trading, at(trading.tradersOf, k));
             return true;
         }
 

@@ -55,6 +55,13 @@ public final class FaceTest {
     private static final String EXCEPTIONS = "(IllegalState|IllegalArgument|IndexOutOfBounds|Arithmetic"
         + "|UnsupportedOperation|NoSuchElement|Runtime)Exception";
 
+    private static final String CONSTANTS = "[A-Z_\\d]+( [-+*/<]+ [A-Z_\\d]+)*";
+    private static final String INDEX = "(?<!new )\\b[a-z]\\w*\\[([^\\[\\]]+)\\]";
+    private static final String DIVISOR = " [/%]=? ([^ ;)]+)";
+    /** The head of a method or a constructor, alone on its line. */
+    private static final String METHOD
+        = "(?m)^ +(?!if|for|while|switch|else|return)([\\w<>\\[\\]]+ )*\\w+\\([^()]*\\)( throws [\\w, ]+)? \\{$";
+
     public static void main(String[] args) throws IOException {
         methods();
         members();
@@ -141,6 +148,36 @@ public final class FaceTest {
         each(code, "import (.*);", "java\\.util\\.(Arrays|ArrayList|List|Iterator|NoSuchElementException)");
         each(code, "throw ([^;]*);", "new " + EXCEPTIONS + "\\((\"[^\"]*\")?\\)");
         each(code, "catch \\(([^)]*) \\w+\\)", EXCEPTIONS + "( \\| " + EXCEPTIONS + ")*");
+        lookedAtBefore(code, INDEX, "indexes");
+        lookedAtBefore(code, DIVISOR, "divides by");
+        each(code, "\\bnew \\w+\\[([^\\]]+)\\]", CONSTANTS);
+    }
+
+    /** Rule 7: what is a name must be compared in its method before it is used so. */
+    private static void lookedAtBefore(String code, String use, String what) {
+        int uses = 0;
+        Matcher found = Pattern.compile(use).matcher(code);
+        while (found.find()) {
+            String used = found.group(1);
+            if (used.matches(CONSTANTS)) {
+                continue;
+            }
+            uses++;
+            String before = code.substring(startOfMethod(code, found.start()), found.start());
+            boolean isCompared = used.matches("[\\w.]+")
+                && Pattern.compile("(?<![\\w.])" + Pattern.quote(used) + " (<|<=|>|>=|==|!=) ").matcher(before).find();
+            CHECK.same(what + " " + used + ", compared before in: " + before, isCompared ? 1 : 0, 1);
+        }
+        CHECK.same("the source " + what + " something", uses > 0 ? 1 : 0, 1);
+    }
+
+    private static int startOfMethod(String code, int place) {
+        int start = 0;
+        Matcher head = Pattern.compile(METHOD).matcher(code);
+        while (head.find() && head.start() < place) {
+            start = head.start();
+        }
+        return start;
     }
 
     /** Each part of the code of this form must be of the form that is due. */
